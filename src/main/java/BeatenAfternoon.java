@@ -932,6 +932,7 @@ public final class BeatenAfternoon {
             return true;
         }
 
+        // The CLAUSE's own letter is passed only here, so that one too many is itself the FAULT.
         private boolean readItems(Tape tape, String letters, int[] most, int[] without) {
             tape.at++;
             System.arraycopy(without, 0, items, 0, without.length);

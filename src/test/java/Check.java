@@ -76,7 +76,8 @@ final class Check {
 
     static BeatenAfternoon underLaw(String estate, String law) {
         BeatenAfternoon x = estate(estate);
-        if (!x.law(enact(x, law))) {
+        int number = enact(x, law);
+        if (number < 0 || !x.law(number)) {
             throw new IllegalStateException("not a law: " + law);
         }
         return x;

@@ -24,6 +24,9 @@ public final class OracleTest {
         for (int run = 0; run < 20000; run++) {
             new OracleTest(run, check).faults();
         }
+        for (int run = 0; run < 3000; run++) {
+            new OracleTest(run, check).claims(run);
+        }
         check.finish("OracleTest");
     }
 
@@ -45,6 +48,24 @@ public final class OracleTest {
         feed(text);
         same("fault(0) " + text, x.fault(0), o.fault(0));
         same("fault(1) " + text, x.fault(1), o.fault(1));
+    }
+
+    /** Under these LAWS a GUN that has TAKEN something reaches what was LET BY ahead of that. */
+    private void claims(int run) {
+        trace = "claims " + run + " ";
+        settle();
+        int near = 1 + random.nextInt(3), less = random.nextInt(12), finest = 3 + random.nextInt(5);
+        String keen = "y:v>" + finest + "?20-d;y:n*" + (4 + random.nextInt(9)) + "+s-d*" + near + "-" + (9 + less);
+        feed(keen);
+        same("text(1) " + keen, x.text(1), o.text(1));
+        same("law(0)", x.law(0) ? 1 : 0, o.law(0) ? 1 : 0);
+        for (int i = 0; i < 12; i++) {
+            int wind = random.nextInt(9), from = random.nextInt(5), to = 5 + random.nextInt(5);
+            same("wind(" + wind + ")", x.wind(wind), o.wind(wind));
+            same("line(" + from + "," + to + ")", x.line(from, to), o.line(from, to));
+            same("claim(0) under " + keen, x.claim(0), o.claim(0));
+            same("claim(1) under " + keen, x.claim(1), o.claim(1));
+        }
     }
 
     private void same(String call, long got, long want) {
@@ -101,10 +122,11 @@ public final class OracleTest {
         int clauses = 1 + random.nextInt(3);
         for (int i = 0; i < clauses; i++) {
             all.append(i > 0 ? ";" : "").append(blanks()).append("y").append(blanks()).append(":");
+            int deep = 1 + random.nextInt(random.nextInt(4) == 0 ? 7 : 2);
             if (random.nextBoolean()) {
-                all.append(condition(2)).append('?');
+                all.append(condition(deep)).append('?');
             }
-            all.append(sum(2));
+            all.append(sum(deep));
         }
         return all.toString();
     }
