@@ -401,7 +401,8 @@ public final class BeatenAfternoon {
         if (!areTwoGuns(one, other) || !Duel.isStep(x) || !Duel.isStep(y) || !isPair(what)) {
             return HIDDEN;
         }
-        ground.runAside(one, other, x, y);
+        ground.stepAside(one, other, x, y);
+        ground.run(ground.trial);
         return what == 0 ? ground.valueBy[one] - x : ground.valueBy[other] - y;
     }
 
@@ -1173,8 +1174,12 @@ public final class BeatenAfternoon {
 
         int worth(int[] letters) {
             int top = 0;
+            int next = 0;
             for (int at = 0; at < code.length; at++) {
                 int number = code[at];
+                if (at < next) {
+                    continue;
+                }
                 if (number >= -letters.length) {
                     if (top >= STACK) {
                         return 0;
@@ -1187,18 +1192,13 @@ public final class BeatenAfternoon {
                     stack[top - 1] = 1 - stack[top - 1];
                 } else if (number == -'?') {
                     top--;
-                    at = stack[top] == 1 ? at + 1 : behindClause(at);
+                    next = stack[top] == 1 || at + 1 >= code.length ? at + 2 : code[at + 1];
                 } else if (top > 1) {
                     top--;
                     stack[top - 1] = joined(-number, stack[top - 1], stack[top]);
                 }
             }
             return 0;
-        }
-
-        // Never behind where it stands, so that the loop ends.
-        private int behindClause(int at) {
-            return at + 1 < code.length ? Math.max(at, code[at + 1] - 1) : code.length;
         }
 
         private static int joined(int sign, long a, long b) {
@@ -1382,11 +1382,10 @@ public final class BeatenAfternoon {
             return most - fewest;
         }
 
-        void runAside(int one, int other, int x, int y) {
+        void stepAside(int one, int other, int x, int y) {
             freshTrial();
             trial.pegs[one] = Math.min(COLUMNS - 1, now.pegs[one] + x);
             trial.pegs[other] = Math.min(COLUMNS - 1, now.pegs[other] + y);
-            run(trial);
         }
 
         int oddsOfTaking(int gun, int chance) {
@@ -1617,7 +1616,8 @@ public final class BeatenAfternoon {
         void play(Ground ground, int one, int other) {
             for (int x = 0; x < STEPS; x++) {
                 for (int y = 0; y < STEPS; y++) {
-                    ground.runAside(one, other, x, y);
+                    ground.stepAside(one, other, x, y);
+                    ground.run(ground.trial);
                     ones[x * STEPS + y] = ground.valueBy[one] - x;
                     others[x * STEPS + y] = ground.valueBy[other] - y;
                 }
