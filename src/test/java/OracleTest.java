@@ -50,12 +50,15 @@ public final class OracleTest {
         same("fault(1) " + text, x.fault(1), o.fault(1));
     }
 
-    /** Under these LAWS a GUN that has TAKEN something reaches what was LET BY ahead of that. */
+    /** Under these LAWS a GUN that has TAKEN something reaches what was LET BY ahead of that; under some, each TAKES one. */
     private void claims(int run) {
         trace = "claims " + run + " ";
         settle();
-        int near = 1 + random.nextInt(3), less = random.nextInt(12), finest = 3 + random.nextInt(5);
+        int near = 1 + random.nextInt(3), less = random.nextInt(12), finest = 3 + random.nextInt(5), late = 1 + random.nextInt(6);
         String keen = "y:v>" + finest + "?20-d;y:n*" + (4 + random.nextInt(9)) + "+s-d*" + near + "-" + (9 + less);
+        if (run % 2 == 1) {
+            keen = "y:m>" + late + "&n<1?20;y:m>" + late + "?0;y:n*" + (4 + random.nextInt(9)) + "-d*" + near;
+        }
         feed(keen);
         same("text(1) " + keen, x.text(1), o.text(1));
         same("law(0)", x.law(0) ? 1 : 0, o.law(0) ? 1 : 0);
